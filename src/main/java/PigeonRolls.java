@@ -118,7 +118,7 @@ public final class PigeonRolls {
         if (realm.isDead(from)) {
             return finding(STATE);
         }
-        return realm.add(kind, realm.get(from, LOFT), from);
+        return realm.add(kind, realm.loft[from], from);
     }
 
     public int of(int bird, int what) {
@@ -132,8 +132,8 @@ public final class PigeonRolls {
         if (!realm.has(bird) || !within(what, KIND, PAID) || !Kingdom.allows(bird, what, v)) {
             return finding(BEYOND);
         }
-        int was = realm.get(bird, what);
-        realm.put(bird, what, v);
+        int was = realm.traits[what][bird];
+        realm.traits[what][bird] = v;
         return was;
     }
 
@@ -213,7 +213,7 @@ public final class PigeonRolls {
             return finding(BEYOND);
         }
         int lives = realm.tell(bird, LIVES);
-        int days = Math.max(0, lives + 1 - realm.get(bird, AGE));
+        int days = Math.max(0, lives + 1 - realm.age[bird]);
         // No age is ever above the greatest, so who lives that long doesn't die.
         if (lives >= MOST_OF_A_BIRD || days > FAR) {
             return finding(NONE);
@@ -240,7 +240,7 @@ public final class PigeonRolls {
         trial.become(realm);
         int line = trial.lineSet();
         for (int days = 0; days <= FAR; days++) {
-            if (trial.get(bird, PAID) >= v) {
+            if (trial.paid[bird] >= v) {
                 return days;
             }
             trial.passDay(line);
@@ -389,7 +389,7 @@ public final class PigeonRolls {
             realm.list[realm.day % PLACES] = realm.drawOfChance() % 100;
             int bird = realm.drawOfChance() % 8;
             if (realm.has(bird)) {
-                realm.put(bird, BOY, 1 - realm.get(bird, BOY));
+                realm.boy[bird] = 1 - realm.boy[bird];
             }
             realm.passDay(line);
         }
@@ -400,7 +400,7 @@ public final class PigeonRolls {
         if (!realm.has(bird) || !within(n, 0, 9) || !within(what, 0, 1)) {
             return finding(BEYOND);
         }
-        int enough = Math.max(0, 100 - realm.dueTo(bird));
+        int enough = Math.max(0, 100 - realm.rateOf(bird) - realm.owed[bird]);
         int common = commonDivisor(enough, 100);
         return power((what == 0 ? enough : 100) / common, n);
     }
@@ -541,7 +541,7 @@ public final class PigeonRolls {
         }
         for (int i = 0; i < told.length; i++) {
             // A number without a bird tells of nobody, so it can't be so.
-            if (!realm.has(i) || realm.get(i, OWED) != told.numbers[i]) {
+            if (!realm.has(i) || realm.owed[i] != told.numbers[i]) {
                 return 1 + i;
             }
         }
@@ -624,16 +624,16 @@ public final class PigeonRolls {
 
     private int paidWith(int bird, int what, int v, int n) {
         trial.become(realm);
-        trial.put(bird, what, v);
+        trial.traits[what][bird] = v;
         trial.passDays(n);
-        return trial.get(bird, PAID);
+        return trial.paid[bird];
     }
 
     private boolean onlyTheseOwed(int set, int n) {
         trial.become(realm);
         for (int b = 0; b < trial.birds; b++) {
             if ((set >> b & 1) == 1) {
-                trial.put(b, OFF, 1);
+                trial.off[b] = 1;
             }
         }
         trial.passDays(n);
@@ -642,21 +642,21 @@ public final class PigeonRolls {
 
     private boolean arrearsAgree(Sheet told, int bird, int what, int v) {
         trial.become(realm);
-        trial.put(bird, what, v);
+        trial.traits[what][bird] = v;
         int asked = Math.min(told.length, ASKED_NUMBERS);
         for (int i = 0; i < asked; i++) {
             if (i > 0) {
                 trial.passDays(QUARTER);
             }
             int number = told.numbers[i];
-            if (number != ANY && number != trial.get(bird, OWED)) {
+            if (number != ANY && number != trial.owed[bird]) {
                 return false;
             }
         }
         return true;
     }
 
-    // b is above 0 at first, so what is answered is, too.
+    // It is divided by the answer, so that is never 0.
     private static int commonDivisor(int a, int b) {
         int great = b;
         int small = a;
@@ -665,7 +665,7 @@ public final class PigeonRolls {
             great = small;
             small = rest;
         }
-        return great;
+        return Math.max(1, great);
     }
 
     private static long power(long base, int n) {
@@ -690,7 +690,17 @@ public final class PigeonRolls {
         int birds = 0;
         final int[] list = new int[PLACES];
         final int[] spots = new int[SPOTS];
-        final int[] traits = new int[MOST_BIRDS * TRAITS];
+        // A row for each trait, by birds; what is below are the same rows by their names.
+        final int[][] traits = new int[TRAITS][MOST_BIRDS];
+        final int[] kind = traits[KIND];
+        final int[] loft = traits[LOFT];
+        final int[] from = traits[FROM];
+        final int[] age = traits[AGE];
+        final int[] carried = traits[CARRIED];
+        final int[] boy = traits[BOY];
+        final int[] off = traits[OFF];
+        final int[] owed = traits[OWED];
+        final int[] paid = traits[PAID];
 
         Kingdom() {
             for (int i = 0; i < SPOTS; i++) {
@@ -705,7 +715,9 @@ public final class PigeonRolls {
             birds = other.birds;
             System.arraycopy(other.list, 0, list, 0, PLACES);
             System.arraycopy(other.spots, 0, spots, 0, SPOTS);
-            System.arraycopy(other.traits, 0, traits, 0, MOST_BIRDS * TRAITS);
+            for (int what = 0; what < TRAITS; what++) {
+                System.arraycopy(other.traits[what], 0, traits[what], 0, MOST_BIRDS);
+            }
         }
 
         boolean has(int bird) {
@@ -716,35 +728,26 @@ public final class PigeonRolls {
             return birds >= MOST_BIRDS;
         }
 
-        int get(int bird, int what) {
-            return traits[bird * TRAITS + what];
-        }
-
-        void put(int bird, int what, int v) {
-            traits[bird * TRAITS + what] = v;
-        }
-
         static boolean allows(int bird, int what, int v) {
             return what == FROM ? within(v, NOBODY, bird - 1) : within(v, 0, MOST[what]);
         }
 
-        int add(int kind, int loft, int from) {
+        int add(int itsKind, int itsLoft, int itsParent) {
             int bird = birds;
             birds++;
             for (int what = 0; what < TRAITS; what++) {
-                // An undone bird may have left its traits here.
-                put(bird, what, 0);
+                traits[what][bird] = 0;
             }
-            put(bird, KIND, kind);
-            put(bird, LOFT, loft);
-            put(bird, FROM, from);
+            kind[bird] = itsKind;
+            loft[bird] = itsLoft;
+            from[bird] = itsParent;
             return bird;
         }
 
         int tell(int bird, int what) {
             switch (what) {
                 case LIVES:
-                    return LIFE[get(bird, KIND)];
+                    return LIFE[kind[bird]];
                 case RATE:
                     return rateOf(bird);
                 case EATS:
@@ -754,14 +757,14 @@ public final class PigeonRolls {
                 case DRAWS:
                     return drawSet(lineSet()) >> bird & 1;
                 default:
-                    return get(bird, what);
+                    return traits[what][bird];
             }
         }
 
-        boolean isOfKind(int bird, int kind) {
-            int is = get(bird, KIND);
+        boolean isOfKind(int bird, int wanted) {
+            int is = kind[bird];
             for (int steps = 0; steps < KINDS && is >= 0; steps++) {
-                if (is == kind) {
+                if (is == wanted) {
                     return true;
                 }
                 is = UNDER[is];
@@ -770,7 +773,7 @@ public final class PigeonRolls {
         }
 
         boolean isDead(int bird) {
-            return get(bird, AGE) > LIFE[get(bird, KIND)];
+            return age[bird] > LIFE[kind[bird]];
         }
 
         int deadSet() {
@@ -783,10 +786,10 @@ public final class PigeonRolls {
             return set;
         }
 
-        int loftSet(int loft) {
+        int loftSet(int where) {
             int set = 0;
             for (int b = 0; b < birds; b++) {
-                if (get(b, LOFT) == loft) {
+                if (loft[b] == where) {
                     set |= 1 << b;
                 }
             }
@@ -796,7 +799,7 @@ public final class PigeonRolls {
         int owedSet() {
             int set = 0;
             for (int b = 0; b < birds; b++) {
-                if (get(b, OWED) > 0) {
+                if (owed[b] > 0) {
                     set |= 1 << b;
                 }
             }
@@ -807,8 +810,8 @@ public final class PigeonRolls {
         int lineSet() {
             int set = 0;
             for (int b = 0; b < birds; b++) {
-                int parent = get(b, FROM);
-                if (get(b, CARRIED) == 1 || parent >= 0 && (set >> parent & 1) == 1) {
+                int parent = from[b];
+                if (carried[b] == 1 || parent >= 0 && (set >> parent & 1) == 1) {
                     set |= 1 << b;
                 }
             }
@@ -818,7 +821,7 @@ public final class PigeonRolls {
         int issueSet(int bird) {
             int set = 1 << bird;
             for (int b = bird + 1; b < birds; b++) {
-                int parent = get(b, FROM);
+                int parent = from[b];
                 if (parent >= 0 && (set >> parent & 1) == 1) {
                     set |= 1 << b;
                 }
@@ -830,10 +833,10 @@ public final class PigeonRolls {
             int set = 0;
             int b = bird;
             for (int steps = 0; steps < MOST_BIRDS && b >= 0; steps++) {
-                if (get(b, CARRIED) == 1) {
+                if (carried[b] == 1) {
                     set |= 1 << b;
                 }
-                b = get(b, FROM);
+                b = from[b];
             }
             return set;
         }
@@ -842,8 +845,8 @@ public final class PigeonRolls {
         int drawSet(int line) {
             int set = 0;
             for (int b = 0; b < birds; b++) {
-                boolean entitled = get(b, BOY) == 1 || (line >> b & 1) == 1 && !isDead(b);
-                if (entitled && get(b, OFF) == 0) {
+                boolean entitled = boy[b] == 1 || (line >> b & 1) == 1 && !isDead(b);
+                if (entitled && off[b] == 0) {
                     set |= 1 << b;
                 }
             }
@@ -853,7 +856,7 @@ public final class PigeonRolls {
         int together(int what) {
             int sum = 0;
             for (int b = 0; b < birds; b++) {
-                sum += get(b, what);
+                sum += traits[what][b];
             }
             return sum;
         }
@@ -880,7 +883,7 @@ public final class PigeonRolls {
         }
 
         int rateOf(int bird) {
-            switch (get(bird, KIND)) {
+            switch (kind[bird]) {
                 case HEN:
                     return 8;
                 case WIDOW:
@@ -899,26 +902,28 @@ public final class PigeonRolls {
         }
 
         private int cockRate(int bird) {
-            return 10 + Integer.bitCount(loftSet(get(bird, LOFT)));
+            int rate = 10;
+            for (int b = 0; b < birds; b++) {
+                if (loft[b] == loft[bird]) {
+                    rate++;
+                }
+            }
+            return rate;
         }
 
         private int livingChildren(int bird) {
             int children = 0;
             for (int b = bird + 1; b < birds; b++) {
-                if (get(b, FROM) == bird && !isDead(b)) {
+                if (from[b] == bird && !isDead(b)) {
                     children++;
                 }
             }
             return children;
         }
 
-        int dueTo(int bird) {
-            return rateOf(bird) + get(bird, OWED);
-        }
-
         // What it eats if it draws; who asks looks whether it does.
         int mealOf(int bird) {
-            switch (get(bird, KIND)) {
+            switch (kind[bird]) {
                 case DUKE:
                     return 1;
                 case EAGLE:
@@ -964,7 +969,7 @@ public final class PigeonRolls {
 
         private void growOlder() {
             for (int b = 0; b < birds; b++) {
-                put(b, AGE, Math.min(MOST_OF_A_BIRD, get(b, AGE) + 1));
+                age[b] = Math.min(MOST_OF_A_BIRD, age[b] + 1);
             }
         }
 
@@ -972,11 +977,11 @@ public final class PigeonRolls {
             for (int b = 0; b < birds; b++) {
                 if ((drawing >> b & 1) == 1) {
                     // Each rate is asked in its turn: an eagle's depends on what those before it left.
-                    int due = dueTo(b);
+                    int due = rateOf(b) + owed[b];
                     int gets = Math.min(due, treasury);
                     treasury -= gets;
-                    put(b, PAID, Math.min(MOST_OF_A_BIRD, get(b, PAID) + gets));
-                    put(b, OWED, Math.min(MOST_OF_A_BIRD, due - gets));
+                    paid[b] = Math.min(MOST_OF_A_BIRD, paid[b] + gets);
+                    owed[b] = Math.min(MOST_OF_A_BIRD, due - gets);
                 }
             }
         }
@@ -1059,37 +1064,33 @@ public final class PigeonRolls {
                 at++;
             }
             behind = at;
+            value = 0;
             if (at >= length) {
                 token = END;
-            } else if (isLetter(at)) {
+            } else if (isLetter(bytes[at])) {
                 token = WORD;
-                while (behind < length && isLetter(behind)) {
+                while (behind < length && isLetter(bytes[behind])) {
                     behind++;
                 }
-            } else if (isDigit(at)) {
+            } else if (isDigit(bytes[at])) {
                 token = NUMBER;
-                stepOverDigits();
+                while (behind < length && isDigit(bytes[behind])) {
+                    // Held just above the greatest number, so that no row of digits wraps around.
+                    value = Math.min(MOST_NUMBER + 1, value * 10 + bytes[behind] - '0');
+                    behind++;
+                }
             } else {
                 token = bytes[at] == ';' ? SIGN : NO_TOKEN;
                 behind++;
             }
         }
 
-        private void stepOverDigits() {
-            value = 0;
-            while (behind < length && isDigit(behind)) {
-                // Held just above the greatest number, so that no row of digits wraps around.
-                value = Math.min(MOST_NUMBER + 1, value * 10 + bytes[behind] - '0');
-                behind++;
-            }
+        private static boolean isLetter(int b) {
+            return b >= 'a' && b <= 'z';
         }
 
-        private boolean isLetter(int i) {
-            return bytes[i] >= 'a' && bytes[i] <= 'z';
-        }
-
-        private boolean isDigit(int i) {
-            return bytes[i] >= '0' && bytes[i] <= '9';
+        private static boolean isDigit(int b) {
+            return b >= '0' && b <= '9';
         }
 
         private boolean isWord(String word) {
@@ -1188,9 +1189,9 @@ public final class PigeonRolls {
                 return false;
             }
             int bird = kingdom.add(kind, loft, from);
-            kingdom.put(bird, AGE, age);
-            kingdom.put(bird, CARRIED, tookWord("carried") ? 1 : 0);
-            kingdom.put(bird, BOY, tookWord("boy") ? 1 : 0);
+            kingdom.age[bird] = age;
+            kingdom.carried[bird] = tookWord("carried") ? 1 : 0;
+            kingdom.boy[bird] = tookWord("boy") ? 1 : 0;
             return true;
         }
 
@@ -1221,7 +1222,7 @@ public final class PigeonRolls {
             if (bird == FAULTY) {
                 return false;
             }
-            kingdom.put(bird, OFF, 1);
+            kingdom.off[bird] = 1;
             return true;
         }
     }

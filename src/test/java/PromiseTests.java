@@ -176,6 +176,9 @@ public final class PromiseTests {
         for (int i = 3; i < 8; i++) {
             x.bird(0, 0);
         }
+        PigeonRolls y = told("hen");
+        due("hatch(0, 6)", y.hatch(0, 6), 1);
+        due("kind", y.of(1, 0), 6);
         due("a ninth of a dead one", x.hatch(0, 2), FULL);
         due("a ninth of nobody", x.hatch(8, 2), BEYOND);
         due("count(1)", x.count(1), 8);
@@ -381,6 +384,8 @@ public final class PromiseTests {
         due("now(-1)", x.now(-1), BEYOND);
         x.go(2);
         due("now(0)", x.now(0), 2);
+        x.change(0, 3, 100);
+        due("now(3)", x.now(3), 1 + 2);
     }
 
     private static void ahead() {
@@ -452,6 +457,9 @@ public final class PromiseTests {
         due("far on, just within", x.fails(), 198);
         x.corn(198);
         due("farther on", x.fails(), NONE);
+        x.go(4);
+        x.corn(197);
+        due("200 itself", x.fails(), 200);
     }
 
     private static void when() {
@@ -501,6 +509,7 @@ public final class PromiseTests {
         due("harvestFor(5, 12)", x.harvestFor(5, 12), 16);
         due("harvestFor(0, 0)", x.harvestFor(0, 0), 0);
         due("nothing changed", all(x), before);
+        due("harvestFor(0, 60)", x.harvestFor(0, 60), 18);
         due("harvestFor(6, 0)", x.harvestFor(6, 0), BEYOND);
         due("harvestFor(-1, 0)", x.harvestFor(-1, 0), BEYOND);
         due("harvestFor(0, 61)", x.harvestFor(0, 61), BEYOND);
@@ -545,6 +554,7 @@ public final class PromiseTests {
         due("the first that carried", x.parentFor(3, 6), 1);
         due("in no time", x.parentFor(3, 0), 0);
         due("nothing changed", all(x), before);
+        due("in the longest time", x.parentFor(3, 60), 1);
         due("no choice", x.parentFor(0, 6), -1);
         due("one choice, though it doesn't help", x.parentFor(1, 6), 0);
         due("parentFor(4, 6)", x.parentFor(4, 6), BEYOND);
@@ -669,6 +679,7 @@ public final class PromiseTests {
         x.seed(777);
         x.hatchings(1);
         due("nobody has a boy", x.now(2), 0);
+        due("nor that one", x.of(bird, 5), 0);
         due("day", x.now(0), 4);
         x.image();
         due("hatchings(20)", x.hatchings(20) >= 0 ? 1 : 0, 1);
@@ -768,6 +779,10 @@ public final class PromiseTests {
         due("now(1)", x.now(1), 7);
         due("listed(2)", x.listed(2), 3);
         due("blanks about it", text(x, "  corn 8  "), 1);
+        feed(x, "corn 12345");
+        x.wipe();
+        due("bytes that were wiped are gone", text(x, "corn 1"), 1);
+        due("now(1)", x.now(1), 1);
         due("item by item", text(x, "corn 9;corn 10"), 2);
         due("now(1)", x.now(1), 10);
         faults();
@@ -779,6 +794,9 @@ public final class PromiseTests {
         fault("cat", 0);
         fault("hens", 0);
         fault("Hen", 0);
+        fault("xen", 0);
+        fault("henz", 0);
+        fault("hen aged 9z", 10);
         fault(";", 0);
         fault("7", 0);
         fault("#", 0);
