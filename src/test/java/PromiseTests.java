@@ -315,8 +315,24 @@ public final class PromiseTests {
         due("owed", x.of(0, 7), 0);
         due("paid", x.of(0, 8), 30);
         due("go(60): it dies behind seven quarters", x.go(60), 12);
+        x = atDay99960();
+        due("go(40)", x.go(40), STATE);
+        due("nothing changed", x.now(0), 99960);
+        due("go(39)", x.go(39), 0);
+        due("now(0)", x.now(0), 99999);
+        due("go(1)", x.go(1), STATE);
+        due("go(61)", x.go(61), BEYOND);
         dayByNumbers();
         dayLimits();
+    }
+
+    // More calls than an object is promised for: STATE can't be come by with fewer, but its words can be held.
+    private static PigeonRolls atDay99960() {
+        PigeonRolls x = new PigeonRolls();
+        for (int i = 0; i < 1666; i++) {
+            x.go(60);
+        }
+        return x;
     }
 
     private static void dayByNumbers() {
@@ -684,6 +700,14 @@ public final class PromiseTests {
         x.image();
         due("hatchings(20)", x.hatchings(20) >= 0 ? 1 : 0, 1);
         due("day", x.now(0), 24);
+        x = atDay99960();
+        x.go(20);
+        due("hatchings(20)", x.hatchings(20), STATE);
+        due("hatchings(21)", x.hatchings(21), BEYOND);
+        due("z is as it was", x.count(6), 1);
+        x.hatchings(19);
+        due("day", x.now(0), 99999);
+        due("hatchings(1)", x.hatchings(1), STATE);
     }
 
     private static void odds() {
