@@ -952,7 +952,8 @@ public final class EdgeTests {
         fault(empty(), "corn " + "9".repeat(115), 5);
         reads(empty(), "corn " + "0".repeat(114) + "9", 1);
         words(0, "or how many bytes there are if it ends too early");
-        for (String early : new String[] {"", "hen;", "hen loft", "hen from", "hen aged", "harvest", "harvest 5", "corn", "strike"}) {
+        String[] cut = {"", "hen;", "hen loft", "hen from", "hen aged", "harvest", "harvest 5", "corn", "strike"};
+        for (String early : cut) {
             fault(empty(), early, early.length());
             fault(empty(), early + "  ", early.length() + 2);
         }
@@ -1021,6 +1022,10 @@ public final class EdgeTests {
                 fault(empty(), item + parts[p], item.length() + 1);
             }
         }
+        tokens();
+    }
+
+    private static void tokens() {
         words(0, "TOKENS, each as long as can be");
         fault(empty(), "hencarried", 0);
         fault(empty(), "hen carriedboy", 4);
@@ -1041,6 +1046,23 @@ public final class EdgeTests {
         otherWords("hen ", "aged", " 0");
         otherWords("hen ", "carried", "");
         otherWords("hen ", "boy", "");
+        words(0, "the first byte of the first TOKEN that can't stand there");
+        String[] awaiting = {"hen loft ", "hen;hen from ", "hen aged ", "harvest ", "harvest 0 ", "corn ", "hen;strike "};
+        for (String before : awaiting) {
+            for (String token : new String[] {"hen", "x", "corn", "boy", ";", ";hen", "#", "-1", "+1", ".5"}) {
+                fault(empty(), before + token, before.length());
+                fault(empty(), before + token + " 1", before.length());
+            }
+        }
+        for (String token : new String[] {"7", "0", "9999", "10000", "x", "harvest", "corn", "strike", "#"}) {
+            fault(empty(), "hen " + token, 4);
+            fault(empty(), "corn 1 " + token, 7);
+            fault(empty(), "hen boy " + token, 8);
+        }
+        for (String token : new String[] {"7", "0", "loft", "from", "aged", "carried", "boy", "#"}) {
+            fault(empty(), token, 0);
+            fault(empty(), "hen;" + token, 4);
+        }
         words(0, "TEXT: ITEM { ; ITEM }.");
         fault(empty(), ";", 0);
         fault(empty(), ";hen", 0);
